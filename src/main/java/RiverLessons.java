@@ -433,8 +433,7 @@ public final class RiverLessons {
                 return 0;
             }
             // A governess and the sign ahead of her are two letters, so a whole text has an even rest.
-            boolean whole = size - semicolon > 1 && (size - semicolon) % 2 == 0;
-            return whole ? reachesAheadOf(semicolon) : 0;
+            return (size - semicolon) % 2 == 0 ? reachesAheadOf(semicolon) : 0;
         }
 
         int semicolonPlace() {
@@ -585,27 +584,29 @@ public final class RiverLessons {
         }
 
         int bargeFrom(int reach) {
+            int bits = wayBits(reach);
             int least = water[reach];
-            int next = into[reach];
-            for (int r = reach - 1; r >= 0; r--) {
-                if (r == next) {
+            for (int r = 0; r < reach; r++) {
+                if ((bits >> r & 1) == 1) {
                     least = Math.min(least, water[r]);
-                    next = into[r];
                 }
             }
             return least;
         }
 
         int reachesToSea(int reach) {
-            int through = 1;
-            int next = into[reach];
-            for (int r = reach - 1; r >= 0; r--) {
-                if (r == next) {
-                    through++;
-                    next = into[r];
+            return Integer.bitCount(wayBits(reach));
+        }
+
+        /** One way down is enough, since each runs into one ahead of it. */
+        private int wayBits(int reach) {
+            int bits = 1 << reach;
+            for (int r = reach; r >= 0; r--) {
+                if ((bits >> r & 1) == 1 && hasReach(into[r])) {
+                    bits |= 1 << into[r];
                 }
             }
-            return through;
+            return bits;
         }
 
         void rainOneMore(int reach) {
