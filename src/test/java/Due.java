@@ -2,20 +2,37 @@
 final class Due {
     private int asked = 0;
     private int wrong = 0;
+    private boolean hushed = false;
+    private String where = "";
+
+    /** What follows is asked in this case. */
+    void begin(String name) {
+        where = name + ": ";
+    }
+
+    /** Counts alone; nothing is printed from now on. */
+    void hush() {
+        hushed = true;
+    }
 
     void is(String call, long got, long want) {
         asked++;
         if (got != want) {
-            wrong++;
-            System.out.println(call + " answered " + got + ", due is " + want);
+            fail(call + " answered " + got + ", due is " + want);
         }
     }
 
     void holds(String what, boolean so) {
         asked++;
         if (!so) {
-            wrong++;
-            System.out.println("not so: " + what);
+            fail("not so: " + what);
+        }
+    }
+
+    private void fail(String line) {
+        wrong++;
+        if (!hushed) {
+            System.out.println(where + line);
         }
     }
 
